@@ -415,7 +415,8 @@ public final class BitDesk {
         return store(made, to);
     }
 
-    public int power(int slot, int exponent, int to, boolean isField) throws IndexOutOfBoundsException, IllegalArgumentException {
+    public int power(int slot, int exponent, int to, boolean isField)
+            throws IndexOutOfBoundsException, IllegalArgumentException {
         needSlot(slot);
         needSlot(to);
         needRange(exponent, 0, MOST_EXPONENT);
@@ -665,14 +666,12 @@ public final class BitDesk {
     }
 
     private int fewestEdges(int[] rows, int a, int b) {
-        int seen = 0;
         int front = rows[a];
         for (int edges = 1; edges <= state.size; edges++) {
             if (hasOne(front, b)) {
                 return edges;
             }
-            seen |= front;
-            front = joinedRows(rows, front) & ~seen;
+            front = joinedRows(rows, front);
         }
         return NONE;
     }
@@ -1013,8 +1012,8 @@ public final class BitDesk {
             return power;
         }
 
+        // The entry 0 is that of the empty set: it stays 0 from the constructor on.
         private void fillTable(int[] b, int start, int columns) {
-            table[0] = 0;
             for (int column = 0; column < columns; column++) {
                 int half = 1 << column;
                 for (int set = 0; set < half; set++) {

@@ -123,6 +123,11 @@ final class ActionTest {
             one.power(0, exponent, 0, true);
             Check.due("power " + exponent + " over the field", Check.rows(one, 0), Check.rows(one, 2));
         }
+        BitDesk great = Check.desk("size 32;fill 0 ring;fill 1 lower;fill 2 unit");
+        Check.due("power of 32", great.power(0, 1000000, 3, true) + great.row(3, 0), 33L);
+        great.combine(1, 2, 3, 1);
+        Check.due("power 31 of 32", great.power(3, 31, 4, true) + great.row(4, 31), 63 + (3L << 30));
+        Check.due("power 32 over the field", great.power(3, 32, 4, true), 32);
         int actions = desk.count(3);
         Check.dueThrow("power -1", Check.ARGUMENT, () -> desk.power(0, -1, 2, false));
         Check.dueThrow("power 1000001", Check.ARGUMENT, () -> desk.power(0, 1000001, 2, false));

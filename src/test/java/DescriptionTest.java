@@ -165,6 +165,15 @@ final class DescriptionTest {
         fails(desk, ";size 8", 100, 1, 0);
         fails(desk, "sizes 8", 100, 1, 0);
         fails(desk, "siz 8", 100, 1, 0);
+        fails(desk, "xize 8", 100, 1, 0);
+        fails(desk, "sizea 8", 100, 1, 0);
+        fails(desk, "sizez 8", 100, 1, 0);
+        fails(desk, "size` 8", 104, 1, 0);
+        fails(desk, "size{ 8", 104, 1, 0);
+        fails(desk, "size 8: 8", 106, 1, 0);
+        fails(desk, "size 8/ 8", 106, 1, 0);
+        fails(desk, "size 8;aow 0 0 11111111", 107, 1, 1);
+        fails(desk, "size 8;rox 0 0 11111111", 107, 1, 1);
         fails(desk, "Size 8", 100, 1, 0);
         fails(desk, "size", 104, 1, 0);
         fails(desk, "size  ", 106, 1, 0);

@@ -192,6 +192,8 @@ final class NumbersTest {
         Check.due("the later one", work(desk), "15 4");
         desk.undo();
         Check.due("taken back", work(desk), "6 8");
+        desk.power(0, 0, 1, false);
+        Check.due("power 0 leaves it so", work(desk), "6 8");
         desk.product(0, 1, 1, false);
         desk.restoreSnapshot(1);
         Check.due("brought back", work(desk), "6 8");

@@ -68,6 +68,7 @@ final class RowTest {
         Check.due("find, lowest bits", desk.find(0, 0x7777777777777776L), 1);
         Check.due("find nothing", desk.find(0, 16), 3);
         Check.due("find none", desk.find(0, -1), -1);
+        Check.due("find no empty row", Check.desk("size 4;fill 0 ones").find(0, 0), -1);
         Check.due("nearest, equal", desk.nearest(0, 0), 2);
         Check.due("nearest, equal, back", desk.nearest(0, 2), 0);
         Check.due("nearest, first of several", desk.nearest(0, 1), 0);

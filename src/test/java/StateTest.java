@@ -87,12 +87,21 @@ final class StateTest {
             String before = all(desk);
             act(desk, which);
             Check.due("action " + which + " changes something", all(desk).equals(before), false);
+            Check.due("closure after action " + which, desk.pairs(0) + " " + desk.pairs(1), freshPairs(desk, 0) + " " + freshPairs(desk, 1));
             Check.due("undo of action " + which, desk.undo(), 1);
             Check.due("after undo of action " + which, all(desk), before);
         }
         Check.due("SINGULAR", desk.invert(5, 0), -3);
         Check.due("undo of the product", desk.undo(), 0);
         Check.due("work", desk.work(0), 0);
+    }
+
+    private static int freshPairs(BitDesk desk, int slot) {
+        BitDesk fresh = Check.desk("size " + desk.count(0));
+        for (int row = 0; row < desk.count(0); row++) {
+            fresh.setRow(0, row, desk.row(slot, row));
+        }
+        return fresh.pairs(0);
     }
 
     private static void act(BitDesk desk, int which) {

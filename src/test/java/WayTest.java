@@ -74,6 +74,9 @@ final class WayTest {
         Check.due("then", desk.stepAt(1, 0, 4, 2), 3);
         Check.due("at last", desk.stepAt(1, 0, 4, 3), 4);
         Check.due("the lower node leads nowhere", desk.stepAt(2, 0, 3, 1), 2);
+        BitDesk first = Check.desk("size 5;edge 0 3 0;edge 0 3 4;edge 0 4 2;edge 1 3 0;edge 1 3 1;edge 1 0 4;edge 1 1 4;edge 1 4 2");
+        Check.due("the first node leads nowhere", first.stepAt(0, 3, 2, 1), 4);
+        Check.due("the first node leads on", first.stepAt(1, 3, 2, 1) + "" + first.stepAt(1, 3, 2, 2) + first.stepAt(1, 3, 2, 3), "042");
         Check.due("one node", desk.stepAt(0, 5, 5, 0), 5);
         Check.due("one node, next", desk.stepAt(0, 5, 5, 1), -1);
         Check.due("no way", desk.stepAt(0, 5, 0, 0), -1);
@@ -88,6 +91,8 @@ final class WayTest {
         Check.due("girth of none", desk.girth(1), -1);
         Check.due("girth of one", desk.girth(2), 1);
         Check.due("girth of nothing", desk.girth(5), -1);
+        Check.due("girth of the first node", Check.desk("size 2;edge 0 0 0").girth(0), 1);
+        Check.due("girth of the last node", Check.desk("size 2;edge 0 1 1").girth(0), 1);
     }
 
     private static void orders() {
