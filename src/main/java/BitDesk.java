@@ -453,7 +453,7 @@ public final class BitDesk {
         remember();
         System.arraycopy(rowsOf(slot), 0, made, 0, state.size);
         for (int a = 0; a < state.size; a++) {
-            made[a] = neededEdges(made, a);
+            dropNeedless(made, a);
         }
         return store(made, to);
     }
@@ -698,15 +698,16 @@ public final class BitDesk {
     }
 
     // An edge from a to b can go without a change of the closure exactly if a reaches b without it.
-    private int neededEdges(int[] rows, int a) {
+    private void dropNeedless(int[] rows, int a) {
         for (int b = 0; b < state.size; b++) {
             int edges = rows[a];
-            rows[a] = edges & ~(1 << b);
-            if (!hasOne(reachedFrom(rows, a, state.size), b)) {
-                rows[a] = edges;
+            if (hasOne(edges, b)) {
+                rows[a] = edges & ~(1 << b);
+                if (!hasOne(reachedFrom(rows, a, state.size), b)) {
+                    rows[a] = edges;
+                }
             }
         }
-        return rows[a];
     }
 
     private static int combined(int first, int second, int how) {
