@@ -315,6 +315,8 @@ final class ActionBounds {
             BitDesk desk = desk(32);
             Check.due("nothing goes", desk.reduce(0, 4) + " " + desk.reduce(3, 4) + " " + desk.reduce(5, 4), "32 32 0");
             Check.due("all but a way", desk.reduce(2, 4) + " " + desk.row(4, 31) + " " + desk.row(4, 1), "31 1073741824 1");
+            desk.reduce(1, 4);
+            Check.due("of all 32 the last columns stay", desk.row(4, 0) + " " + desk.row(4, 30) + " " + desk.row(4, 31), "2147483648 2147483648 2147483647");
             Check.due("of all, by what is left", desk(3).reduce(1, 5), 4);
             BitDesk small = desk(3);
             small.reduce(1, 1);

@@ -3,7 +3,6 @@ import java.lang.reflect.Member;
 import java.lang.reflect.Method;
 import java.lang.reflect.Modifier;
 import java.nio.file.Files;
-import java.nio.file.Path;
 import java.util.ArrayList;
 import java.util.Arrays;
 import java.util.HashSet;
@@ -77,7 +76,7 @@ final class FaceTest {
     private static Set<String> faceOfDocument() throws Exception {
         Set<String> face = new TreeSet<>();
         boolean isFace = false;
-        for (String line : Files.readAllLines(documentPath())) {
+        for (String line : Files.readAllLines(Document.path())) {
             isFace = line.startsWith("public final class") || isFace && !line.startsWith("}");
             String text = line.trim().replaceAll(";$", "").replaceAll("L$", "");
             if (isFace && text.contains("(") && !text.equals("public BitDesk()")) {
@@ -89,10 +88,5 @@ final class FaceTest {
         face.add("constructors: [public BitDesk()]");
         face.add("class: public final");
         return face;
-    }
-
-    private static Path documentPath() {
-        String shared = System.getenv("SHARED");
-        return Path.of(shared == null ? "../shared" : shared, "DOC.md");
     }
 }

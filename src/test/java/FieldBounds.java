@@ -67,6 +67,7 @@ final class FieldBounds {
             Check.due("the last column alone", desk.solve(3, 1L << 31), 1L << 31);
             Check.due("none", desk.solve(1, 1L) + " " + desk.solve(5, 1L) + " " + desk.solve(3, 3L << 30) + " " + desk.solve(2, 1L), "-1 -1 -1 -1");
             Check.due("nothing of nothing", desk.solve(5, 0L) + " " + desk(1).solve(5, 0L) + " " + desk(1).solve(5, 1L), "0 0 -1");
+            Check.due("the first row has all pivots' columns", Check.desk("size 3;row 0 0 111;row 0 1 011;row 0 2 001").solve(0, 0b111), 4L);
             BitDesk small = Check.desk("size 4;row 0 0 0110;row 0 1 0001;row 0 2 0111");
             Check.due("columns 0 and 2 have no pivot", small.solve(0, 0b0111) + " " + small.solve(0, 0b0101) + " " + small.solve(0, 0b0110), "-1 2 8");
         });

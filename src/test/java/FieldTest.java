@@ -89,7 +89,7 @@ final class FieldTest {
         BitDesk desk = new BitDesk();
         Check.load(desk, "size 3");
         for (int bits = 0; bits < 512; bits++) {
-            if (bits % 100 == 0) {
+            if (bits % 20 == 0) {
                 desk = Check.desk("size 3");
             }
             for (int row = 0; row < 3; row++) {

@@ -12,30 +12,26 @@ final class NumbersTest {
         Check.end("NumbersTest");
     }
 
-    private static String numbers(BitDesk desk, int slot) {
-        return desk.kept(slot, 0) + " " + desk.kept(slot, 1) + " " + desk.kept(slot, 2);
-    }
-
     private static void keptByPut() {
         BitDesk desk = Check.desk("size 6;edge 0 0 1;edge 0 1 2;edge 0 4 4;keep 0");
-        Check.due("at first", numbers(desk, 0), "6 6 1");
+        Check.due("at first", Check.kept(desk, 0), "6 6 1");
         desk.put(0, 2, 3, true);
-        Check.due("an edge behind three nodes", numbers(desk, 0), "3 9 1");
+        Check.due("an edge behind three nodes", Check.kept(desk, 0), "3 9 1");
         desk.put(0, 2, 3, true);
-        Check.due("no change", numbers(desk, 0), "0 9 1");
+        Check.due("no change", Check.kept(desk, 0), "0 9 1");
         desk.put(0, 3, 0, true);
-        Check.due("a cycle closes, by the closure so far", numbers(desk, 0), "4 13 1");
+        Check.due("a cycle closes, by the closure so far", Check.kept(desk, 0), "4 13 1");
         desk.put(0, 5, 0, true);
-        Check.due("a node that none reaches", numbers(desk, 0), "1 14 1");
+        Check.due("a node that none reaches", Check.kept(desk, 0), "1 14 1");
         desk.put(0, 0, 1, false);
-        Check.due("a cycle opens, by the closure so far", numbers(desk, 0), "5 19 1");
+        Check.due("a cycle opens, by the closure so far", Check.kept(desk, 0), "5 19 1");
         desk.put(0, 4, 4, false);
-        Check.due("a node that reaches itself counts once", numbers(desk, 0), "1 20 1");
+        Check.due("a node that reaches itself counts once", Check.kept(desk, 0), "1 20 1");
         desk.put(0, 4, 4, false);
-        Check.due("no change", numbers(desk, 0), "0 20 1");
+        Check.due("no change", Check.kept(desk, 0), "0 20 1");
         desk.put(1, 0, 1, true);
-        Check.due("another slot", numbers(desk, 0), "0 20 1");
-        Check.due("the other slot", numbers(desk, 1), "-1 -1 -1");
+        Check.due("another slot", Check.kept(desk, 0), "0 20 1");
+        Check.due("the other slot", Check.kept(desk, 1), "-1 -1 -1");
     }
 
     private static void keptByOthers() {
@@ -46,14 +42,14 @@ final class NumbersTest {
             desk.put(1, 0, 0, desk.bit(1, 0, 0) == 1);
             act(desk, i);
             times++;
-            Check.due(names[i], numbers(desk, 1), "4 " + 4 * times + " " + times);
+            Check.due(names[i], Check.kept(desk, 1), "4 " + 4 * times + " " + times);
         }
-        Check.due("the slot they are made of", numbers(desk, 0), "4 4 1");
+        Check.due("the slot they are made of", Check.kept(desk, 0), "4 4 1");
         desk.setBlock(2);
         desk.saveSnapshot(0);
         desk.writeRow(1, 1);
         desk.lost(1, 0, 1);
-        Check.due("no change of the matrix", numbers(desk, 1), "4 " + 4 * times + " " + times);
+        Check.due("no change of the matrix", Check.kept(desk, 1), "4 " + 4 * times + " " + times);
     }
 
     private static void act(BitDesk desk, int which) {
@@ -76,31 +72,31 @@ final class NumbersTest {
 
     private static void keptInBetween() {
         BitDesk desk = Check.desk("size 3;edge 0 0 1");
-        Check.due("not kept", numbers(desk, 0), "-1 -1 -1");
+        Check.due("not kept", Check.kept(desk, 0), "-1 -1 -1");
         desk.keep(0, true);
         desk.put(0, 1, 2, true);
-        Check.due("kept", numbers(desk, 0), "2 5 1");
+        Check.due("kept", Check.kept(desk, 0), "2 5 1");
         desk.keep(0, false);
-        Check.due("kept no longer", numbers(desk, 0), "-1 -1 -1");
+        Check.due("kept no longer", Check.kept(desk, 0), "-1 -1 -1");
         desk.put(0, 2, 0, true);
         desk.setRow(0, 0, 7);
         desk.keep(0, true);
-        Check.due("kept again", numbers(desk, 0), "3 8 2");
+        Check.due("kept again", Check.kept(desk, 0), "3 8 2");
         Check.due("its closure", desk.pairs(0), 9);
         desk.undo();
         desk.undo();
         desk.undo();
         desk.undo();
-        Check.due("taken back", numbers(desk, 0), "2 5 1");
+        Check.due("taken back", Check.kept(desk, 0), "2 5 1");
         desk.saveSnapshot(0);
         desk.copy(1, 0);
-        Check.due("made anew", numbers(desk, 0), "3 8 2");
+        Check.due("made anew", Check.kept(desk, 0), "3 8 2");
         desk.restoreSnapshot(0);
-        Check.due("brought back", numbers(desk, 0), "2 5 1");
+        Check.due("brought back", Check.kept(desk, 0), "2 5 1");
         Check.due("its closure", desk.pairs(0), 3);
         Check.load(desk, "size 3");
         desk.keep(0, true);
-        Check.due("since load", numbers(desk, 0), "3 3 1");
+        Check.due("since load", Check.kept(desk, 0), "3 3 1");
     }
 
     /** What is told of a closure does not hang on whether it is kept. */
@@ -128,59 +124,55 @@ final class NumbersTest {
         Check.dueThrow("work 2", Check.ARGUMENT, () -> desk.work(2));
     }
 
-    private static String work(BitDesk desk) {
-        return desk.work(0) + " " + desk.work(1);
-    }
-
     private static void workOfProducts() {
         BitDesk desk = Check.desk("size 5;row 0 0 10001;row 0 1 11000;row 0 3 00110;fill 1 ones;block 2");
-        Check.due("no product", work(desk), "0 0");
+        Check.due("no product", Check.work(desk), "0 0");
         desk.product(0, 1, 2, false);
-        Check.due("blocks of 2, 2 and 1", work(desk), "7 4");
+        Check.due("blocks of 2, 2 and 1", Check.work(desk), "7 4");
         desk.product(1, 0, 2, true);
-        Check.due("all blocks of all rows", work(desk), "7 15");
+        Check.due("all blocks of all rows", Check.work(desk), "7 15");
         desk.product(5, 1, 2, true);
-        Check.due("no rows", work(desk), "7 0");
+        Check.due("no rows", Check.work(desk), "7 0");
         desk.setBlock(8);
         desk.product(0, 1, 2, false);
-        Check.due("one block of 5", work(desk), "31 3");
+        Check.due("one block of 5", Check.work(desk), "31 3");
         desk.setBlock(1);
         desk.product(0, 1, 2, false);
-        Check.due("blocks of 1", work(desk), "5 6");
+        Check.due("blocks of 1", Check.work(desk), "5 6");
         desk.setBlock(3);
         desk.product(0, 1, 0, false);
-        Check.due("by the matrix as it was", work(desk), "10 5");
+        Check.due("by the matrix as it was", Check.work(desk), "10 5");
         BitDesk great = Check.desk("size 32;fill 0 ones;block 8");
         great.product(0, 0, 1, true);
-        Check.due("of 32", work(great), 4 * 255 + " 128");
+        Check.due("of 32", Check.work(great), 4 * 255 + " 128");
         great.setBlock(7);
         great.product(0, 0, 1, true);
-        Check.due("of 32 by 7", work(great), (4 * 127 + 15) + " 160");
+        Check.due("of 32 by 7", Check.work(great), (4 * 127 + 15) + " 160");
     }
 
     private static void workOfPowers() {
         BitDesk desk = Check.desk("size 4;row 0 0 0111;row 0 1 0011;row 0 2 0001;block 2");
         desk.power(0, 0, 1, false);
-        Check.due("power 0", work(desk), "0 0");
+        Check.due("power 0", Check.work(desk), "0 0");
         desk.power(0, 1, 1, false);
-        Check.due("power 1: the unit by the matrix", work(desk), "6 4");
+        Check.due("power 1: the unit by the matrix", Check.work(desk), "6 4");
         desk.power(0, 2, 1, false);
-        Check.due("power 2: the matrix by itself", work(desk), "6 4");
+        Check.due("power 2: the matrix by itself", Check.work(desk), "6 4");
         desk.power(0, 3, 1, false);
-        Check.due("power 3: the power 2 by the matrix", work(desk), "6 2");
+        Check.due("power 3: the power 2 by the matrix", Check.work(desk), "6 2");
         desk.power(0, 3, 1, true);
-        Check.due("power 3 over the field", work(desk), "6 2");
+        Check.due("power 3 over the field", Check.work(desk), "6 2");
         desk.power(0, 4, 1, false);
-        Check.due("power 4: the power 2 by itself", work(desk), "6 2");
+        Check.due("power 4: the power 2 by itself", Check.work(desk), "6 2");
         desk.power(0, 5, 1, false);
-        Check.due("power 5: the power 4 by the matrix", work(desk), "6 0");
+        Check.due("power 5: the power 4 by the matrix", Check.work(desk), "6 0");
         desk.product(0, 0, 1, false);
         desk.power(0, 0, 1, false);
-        Check.due("power 0 makes none", work(desk), "6 4");
+        Check.due("power 0 makes none", Check.work(desk), "6 4");
         desk.copy(0, 1);
         desk.close(0, 1);
         desk.invert(1, 1);
-        Check.due("others make none", work(desk), "6 4");
+        Check.due("others make none", Check.work(desk), "6 4");
     }
 
     private static void workBroughtBack() {
@@ -189,17 +181,17 @@ final class NumbersTest {
         desk.saveSnapshot(1);
         desk.setBlock(4);
         desk.product(0, 1, 1, false);
-        Check.due("the later one", work(desk), "15 4");
+        Check.due("the later one", Check.work(desk), "15 4");
         desk.undo();
-        Check.due("taken back", work(desk), "6 8");
+        Check.due("taken back", Check.work(desk), "6 8");
         desk.power(0, 0, 1, false);
-        Check.due("power 0 leaves it so", work(desk), "6 8");
+        Check.due("power 0 leaves it so", Check.work(desk), "6 8");
         desk.product(0, 1, 1, false);
         desk.restoreSnapshot(1);
-        Check.due("brought back", work(desk), "6 8");
+        Check.due("brought back", Check.work(desk), "6 8");
         Check.load(desk, "size 4;");
-        Check.due("not by an error", work(desk), "6 8");
+        Check.due("not by an error", Check.work(desk), "6 8");
         Check.load(desk, "size 4");
-        Check.due("load", work(desk), "0 0");
+        Check.due("load", Check.work(desk), "0 0");
     }
 }

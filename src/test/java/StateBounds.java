@@ -114,7 +114,52 @@ final class StateBounds {
         }
     }
 
+    /** A desk with the slot's rows alone, whose closure was never told. */
+    private static int freshPairs(BitDesk desk, int slot) {
+        BitDesk fresh = Check.desk("size " + desk.count(0));
+        for (int row = 0; row < desk.count(0); row++) {
+            fresh.setRow(0, row, desk.row(slot, row));
+        }
+        return fresh.pairs(0);
+    }
+
+    private static void actOrSet(BitDesk desk, int action) {
+        switch (action) {
+            case 12: desk.put(0, 1, 4, true); break;
+            case 13: desk.put(0, 4, 3, false); break;
+            case 14: desk.keep(action % 2, false); break;
+            case 15: desk.setBlock(8); break;
+            default: act(desk, action);
+        }
+    }
+
     private static void keptOrNot() {
+        Sentence.holds("2", "By each other action that changes the slot's matrix (or can change it), and by keep(int, boolean) with true, the closure is made anew", () -> {
+            for (int action = 0; action < 12; action++) {
+                BitDesk desk = Check.desk("size 5;edge 0 0 1;edge 0 1 2;edge 0 4 3;fill 1 unit;fill 2 lower");
+                int before = desk.pairs(0);
+                act(desk, action);
+                Check.due("the closure after action " + action, desk.pairs(0), freshPairs(desk, 0));
+                desk.undo();
+                Check.due("the closure after its undo", desk.pairs(0), before);
+                desk.exchange(0, 0, 3);
+                Check.due("the closure after exchange", desk.reached(0, 3) + " " + desk.reached(0, 4) + " " + desk.reached(0, 0), "2 1 0");
+            }
+        });
+        Sentence.holds("2", "The closure of a slot that is kept goes on with the matrix", () -> {
+            for (String text : new String[] {"size 5;keep 0", "size 5"}) {
+                BitDesk desk = Check.desk(text);
+                Check.due("nothing", desk.pairs(0), 0);
+                Check.due("an edge", desk.put(0, 1, 2, true) + " " + desk.reached(0, 1), "1 1");
+                Check.due("an edge ahead", desk.put(0, 0, 1, true) + " " + desk.reached(0, 0) + " " + desk.pairs(0), "2 2 3");
+                Check.due("an edge behind", desk.put(0, 2, 3, true) + " " + desk.reached(0, 0) + " " + desk.pairs(0), "3 3 6");
+                Check.due("one more way", desk.put(0, 0, 4, true) + " " + desk.reached(0, 0) + " " + desk.pairs(0), "1 4 7");
+                Check.due("a cycle", desk.put(0, 3, 1, true) + " " + desk.reached(0, 0) + " " + desk.pairs(0), "6 4 13");
+                Check.due("undo", desk.undo() + " " + desk.pairs(0) + " " + desk.reaches(0, 3, 3), "4 7 0");
+                Check.due("an edge goes", desk.put(0, 1, 2, false) + " " + desk.reached(0, 0) + " " + desk.pairs(0), "4 2 3");
+                Check.due("undo", desk.undo() + " " + desk.pairs(0) + " " + desk.reaches(0, 0, 3), "4 7 1");
+            }
+        });
         Sentence.holds("2", "What is told of a closure does not hang on whether it is kept.", () -> {
             BitDesk desk = Check.desk("size 6;fill 0 lower;fill 1 lower;keep 0");
             int[] edges = {5, 30, 25, 30, 7, 5, 35, 6, 6, 31, 0, 5};
@@ -220,6 +265,14 @@ final class StateBounds {
             Check.due("the power 4, square by square", Check.work(desk), "15 2");
             desk.power(0, 0, 1, true);
             Check.due("the power 0 leaves it", Check.work(desk), "15 2");
+            desk.undo();
+            desk.undo();
+            desk.undo();
+            desk.power(0, 0, 1, true);
+            Check.due("the power 0 leaves what undo brought back", Check.work(desk), "15 3");
+            Check.load(desk, "size 4");
+            desk.power(0, 0, 1, true);
+            Check.due("the power 0 behind load", Check.work(desk), "0 0");
         });
         Sentence.holds("Promise 54", "load() makes it 0, undo() and restoreSnapshot() bring it back.", () -> {
             BitDesk desk = Check.desk("size 4;fill 0 ones");
@@ -269,6 +322,12 @@ final class StateBounds {
             Check.due("a restored snapshot leaves it", Check.output(desk), "0");
             desk.writeRow(0, 1);
             Check.due("a longer one", Check.output(desk), "0".repeat(32));
+            BitDesk small = Check.desk("size 2;fill 0 unit");
+            small.saveSnapshot(0);
+            Check.load(small, "size 5;fill 0 ones");
+            Check.due("a row of five", small.writeRow(0, 0) + " " + Check.output(small), "5 11111");
+            small.restoreSnapshot(0);
+            Check.due("a shorter one", small.writeRow(0, 1) + " " + Check.output(small), "2 01");
         });
         Sentence.holds("Promise 55", "Returns the length of the output.", () -> {
             Check.due("of one", Check.desk("size 1").writeRow(5, 0), 1);
@@ -292,6 +351,14 @@ final class StateBounds {
 
     private static void undo() {
         Sentence.holds("Promise 57", "Takes the latest action back that was not taken back.", () -> {
+            for (int action = 0; action < 16; action++) {
+                BitDesk each = Check.desk("size 5;edge 0 0 1;edge 0 4 3;fill 1 unit;fill 2 lower;keep 0;block 3");
+                each.product(2, 2, 3, false);
+                String before = Check.told(each);
+                actOrSet(each, action);
+                Check.due("an action", each.count(3), 2);
+                Check.due("undo of action " + action, each.undo() + " " + Check.told(each), "1 " + before);
+            }
             BitDesk desk = Check.desk("size 8");
             for (int i = 1; i <= 11; i++) {
                 desk.setRow(0, 0, i);
@@ -358,6 +425,9 @@ final class StateBounds {
             Check.due("a later one in its place", desk.restoreSnapshot(0) + " " + desk.ones(0), "4 5");
         });
         Sentence.holds("Promise 59", "Returns N; NONE if nothing was saved there.", () -> {
+            BitDesk second = Check.desk("size 4");
+            second.saveSnapshot(1);
+            Check.due("saved in the second place alone", second.restoreSnapshot(0) + " " + second.restoreSnapshot(1), "-1 4");
             BitDesk desk = Check.desk("size 4;fill 0 ring;keep 0");
             desk.put(0, 0, 0, true);
             desk.saveSnapshot(0);

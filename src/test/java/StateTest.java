@@ -81,19 +81,19 @@ final class StateTest {
     }
 
     private static void undoOfEach() {
-        BitDesk desk = Check.desk("size 4;fill 0 ring;fill 1 lower;edge 1 0 0;keep 1;keep 0;block 3");
-        desk.product(0, 1, 2, true);
         for (int which = 0; which < 13; which++) {
+            BitDesk desk = Check.desk("size 4;fill 0 ring;fill 1 lower;edge 1 0 0;keep 1;keep 0;block 3");
+            desk.product(0, 1, 2, true);
             String before = all(desk);
             act(desk, which);
             Check.due("action " + which + " changes something", all(desk).equals(before), false);
             Check.due("closure after action " + which, desk.pairs(0) + " " + desk.pairs(1), freshPairs(desk, 0) + " " + freshPairs(desk, 1));
             Check.due("undo of action " + which, desk.undo(), 1);
             Check.due("after undo of action " + which, all(desk), before);
+            Check.due("SINGULAR", desk.invert(5, 0), -3);
+            Check.due("undo of the product", desk.undo(), 0);
+            Check.due("work", desk.work(0), 0);
         }
-        Check.due("SINGULAR", desk.invert(5, 0), -3);
-        Check.due("undo of the product", desk.undo(), 0);
-        Check.due("work", desk.work(0), 0);
     }
 
     private static int freshPairs(BitDesk desk, int slot) {

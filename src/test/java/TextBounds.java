@@ -131,6 +131,9 @@ final class TextBounds {
             text("size3;keep0;fill0unit;block3;edge0 1 2;row0 1 101", "3");
             text("sizes 3", "-100 1 0");
             text("siz 3", "-100 1 0");
+            text("tize 3", "-100 1 0");
+            text("sizea 3", "-100 1 0");
+            text("sizez 3", "-100 1 0");
             text("sizE 3", "-100 1 0");
             text("Size 3", "-100 1 0");
             text("size A", "-105 1 0");

@@ -92,6 +92,9 @@ final class WayBounds {
             Check.due("not the one that is lower later", desk.stepAt(0, 0, 5, 1) + "" + desk.stepAt(0, 0, 5, 2) + desk.stepAt(0, 0, 5, 3), "145");
             BitDesk later = Check.desk("size 6;edge 0 0 2;edge 0 2 4;edge 0 2 3;edge 0 3 5;edge 0 4 5;edge 0 0 1;edge 0 1 2");
             Check.due("they differ at the second place", later.stepAt(0, 0, 5, 1) + "" + later.stepAt(0, 0, 5, 2), "23");
+            BitDesk low = Check.desk("size 5;edge 0 3 0;edge 0 3 4;edge 0 4 2;edge 1 3 0;edge 1 3 1;edge 1 0 4;edge 1 1 4;edge 1 4 2");
+            Check.due("the lowest node leads nowhere", low.stepAt(0, 3, 2, 1) + "" + low.stepAt(0, 3, 2, 2), "42");
+            Check.due("the lowest node leads on", low.stepAt(1, 3, 2, 1) + "" + low.stepAt(1, 3, 2, 2) + low.stepAt(1, 3, 2, 3), "042");
             BitDesk high = Check.desk("size 32;edge 0 31 30;edge 0 31 29;edge 0 30 0;edge 0 29 0");
             Check.due("high nodes", high.stepAt(0, 31, 0, 1), 29);
         });
